@@ -240,8 +240,12 @@ public final class VaultShelves {
             throw new IllegalArgumentException("the buffer is not a complete order text");
         }
         saveState();
+        int executed = 0;
+        while (executed < text.orders && execute(executed)) {
+            executed++;
+        }
         text.wipe();
-        return executeOrders();
+        return executed;
     }
 
     // ---- undo
@@ -326,17 +330,11 @@ public final class VaultShelves {
         savedCount = MAX_SAVED - 1;
     }
 
-    private int executeOrders() {
-        for (int order = 0; order < text.orders; order++) {
-            if (!execute(text.words[order], text.numbers[order], text.shelves[order])) {
-                return order;
-            }
-        }
-        return text.orders;
-    }
-
     /** Answers false, and changes nothing, where the method of the order would throw. */
-    private boolean execute(Word word, int number, int shelf) {
+    private boolean execute(int order) {
+        Word word = text.words[order];
+        int number = text.numbers[order];
+        int shelf = text.shelves[order];
         if (word == null) {
             return false;
         }

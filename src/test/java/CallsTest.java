@@ -88,6 +88,9 @@ final class CallsTest {
         CHECK.equal("13: its own shelf, though free room is less", x.misplace(0, 0), 0);
         x.setShelf(1, 39, 20);
         CHECK.equal("13: just room enough", x.misplace(0, 1), 0);
+        CHECK.equal("13: where it is, though misplaced and without free room", x.misplace(0, 1), 1);
+        x.addRecord(11, 0);
+        CHECK.refused("13: no room where it should be", x, NOT_NOW, () -> x.misplace(0, 0));
     }
 
     private static void promise14Month() {

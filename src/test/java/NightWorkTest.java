@@ -12,6 +12,9 @@ final class NightWorkTest {
         promise17TieOfMoveAndExchange();
         promise17TieOfExchanges();
         promise17ExchangeNeedsRoom();
+        promise17ExchangeNeedsRoomForTheFirst();
+        promise17ExchangeOfMisplaced();
+        promise17GainOfOne();
         promise17CostNeverRises();
         promise18Cost();
         promise19Steps();
@@ -174,6 +177,47 @@ final class NightWorkTest {
         x.setShelf(0, 30, 70);
         x.night(20);
         CHECK.equal("17: the shelf of the first is too small", shelves(x), "125034");
+    }
+
+    private static void promise17ExchangeNeedsRoomForTheFirst() {
+        VaultShelves x = new VaultShelves();
+        x.addRecord(30, 5);
+        x.addRecord(20, 0);
+        for (int shelf = 1; shelf < 5; shelf++) {
+            x.addRecord(30, shelf);
+            x.setShelf(shelf, 30, 70);
+        }
+        x.setShelf(0, 29, 10);
+        x.call(0);
+        CHECK.equal("17: the first does not fit", x.night(20), 0);
+        x.setShelf(0, 30, 10);
+        CHECK.equal("17: the first just fits", x.night(20), 1);
+        CHECK.equal("17: both are exchanged", shelves(x), "051234");
+    }
+
+    private static void promise17ExchangeOfMisplaced() {
+        VaultShelves x = fullShelves(30);
+        x.removeRecord(1);
+        x.removeRecord(0);
+        x.misplace(3, 0);
+        x.setShelf(1, 10, 10);
+        x.month();
+        x.month();
+        // The records 0 to 3 are on the shelves 2, 3, 4 and 0; the last one is misplaced.
+        Check.callOften(x, 0, 9);
+        CHECK.equal("17: the second is misplaced", x.bestGain(), 0);
+        CHECK.equal("17: no step", x.night(20), 0);
+    }
+
+    private static void promise17GainOfOne() {
+        VaultShelves x = new VaultShelves();
+        x.addRecord(5, 0);
+        x.setShelf(1, 30, 9);
+        x.call(0);
+        x.month();
+        CHECK.equal("17: a gain of 1", x.bestGain(), 1);
+        CHECK.equal("17: is enough", x.night(20), 1);
+        CHECK.equal("17: for a step", shelves(x), "1");
     }
 
     private static void promise17CostNeverRises() {
