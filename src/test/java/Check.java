@@ -4,12 +4,32 @@ final class Check {
         double answer();
     }
 
+    /** Makes an object with some calls behind it, and at each time the same ones. */
+    interface Maker {
+        VaultShelves make();
+    }
+
+    interface Act {
+        double on(VaultShelves vault);
+    }
+
     private final String suite;
+    private String sentence = "";
+    private int answersToSentence = 1;
     private int passed;
     private int failed;
 
     Check(String suite) {
         this.suite = suite;
+    }
+
+    /** The sentence of the document that the next answers are about; one without an answer is a fault of the test. */
+    void sentence(String words) {
+        if (answersToSentence == 0) {
+            report("no answer is compared for this sentence", false, "0", "1 or more");
+        }
+        sentence = words;
+        answersToSentence = 0;
     }
 
     void equal(String what, double got, double due) {
@@ -26,9 +46,40 @@ final class Check {
 
     /** A call that throws must throw exactly this, and leave the object as it was. */
     void refused(String what, VaultShelves vault, Class<?> due, Call call) {
-        String before = outside(vault);
+        String before = brief(vault);
         equal(what, outcome(call), "throws " + due.getSimpleName());
-        equal(what + " changes nothing", outside(vault), before);
+        equal(what + " changes nothing", brief(vault), before);
+    }
+
+    /** As refused(), but looks also where looking changes the object: at the buffer, the months and the saved states. */
+    void refusedWholly(String what, Maker maker, Class<?> due, Act act) {
+        String without = whole(maker, vault -> 0);
+        String with = whole(maker, vault -> {
+            equal(what, outcome(() -> act.on(vault)), "throws " + due.getSimpleName());
+            return 0;
+        });
+        equal(what + " changes nothing", with, without);
+    }
+
+    /** All that can be learned of an object behind the act; a look that changes it needs an object of its own. */
+    static String whole(Maker maker, Act act) {
+        VaultShelves text = behind(maker, act);
+        StringBuilder seen = new StringBuilder(outside(text));
+        seen.append(" run ").append(outcome(text::run)).append(' ').append(brief(text));
+        seen.append(" length ").append(text.clearText());
+        VaultShelves months = behind(maker, act);
+        seen.append(" months ").append(months.month()).append(' ').append(brief(months));
+        VaultShelves states = behind(maker, act);
+        while (states.savedStates() > 0) {
+            seen.append(" undone ").append(states.undo()).append(' ').append(brief(states));
+        }
+        return seen.toString();
+    }
+
+    private static VaultShelves behind(Maker maker, Act act) {
+        VaultShelves vault = maker.make();
+        act.on(vault);
+        return vault;
     }
 
     static String outcome(Call call) {
@@ -43,6 +94,11 @@ final class Check {
         return value == Math.rint(value) ? String.valueOf((long) value) : String.valueOf(value);
     }
 
+    /** What a few calls can tell of an object without changing it: objects are used for 512 calls alone. */
+    static String brief(VaultShelves vault) {
+        return vault.digest() + " " + vault.fullness() + " " + vault.firstError() + " " + vault.savedStates();
+    }
+
     /** What can be seen of an object without changing it. */
     static String outside(VaultShelves vault) {
         StringBuilder seen = new StringBuilder();
@@ -54,8 +110,7 @@ final class Check {
                     .append(vault.catalog(record)).append(':').append(vault.weight(record)).append(' ');
         }
         return seen.append(vault.walked()).append(' ').append(vault.steps()).append(' ')
-                .append(vault.fullness()).append(' ').append(vault.firstError()).append(' ')
-                .append(vault.savedStates()).append(' ').append(vault.digest()).toString();
+                .append(brief(vault)).toString();
     }
 
     /** Empties the buffer and puts the text into it. */
@@ -74,6 +129,7 @@ final class Check {
     }
 
     void end() {
+        sentence("");
         System.out.println(suite + ": " + passed + " passed, " + failed + " failed");
         if (failed > 0 || passed == 0) {
             System.exit(1);
@@ -81,11 +137,15 @@ final class Check {
     }
 
     private void report(String what, boolean right, String got, String due) {
+        answersToSentence++;
         if (right) {
             passed++;
         } else {
             failed++;
             System.out.println(suite + ": " + what + " answered " + got + ", due is " + due);
+            if (!sentence.isEmpty()) {
+                System.out.println("    by the sentence: " + sentence);
+            }
         }
     }
 }

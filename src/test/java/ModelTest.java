@@ -28,7 +28,9 @@ final class ModelTest {
     private void compareRun(int seed) {
         while (calls < CALLS - 70) {
             compareCall(seed);
-            same(seed, "digest()", vault::digest, model::digest);
+            // As whole numbers: a double would lose the last figures of a digest.
+            calls++;
+            CHECK.equal("run " + seed + ", call " + calls + ", digest()", vault.digest(), model.digest());
             same(seed, "savedStates()", vault::savedStates, () -> model.saved.size());
         }
     }

@@ -24,22 +24,28 @@ final class UndoTest {
         CHECK.equal("30: all is as before " + name, Check.outside(x), before);
     }
 
-    private static void promise30EachUndoableMethod() {
+    private static VaultShelves oneCalledOfTwo() {
         VaultShelves x = new VaultShelves();
         x.addRecord(10, 3);
         x.addRecord(20, 4);
         x.call(1);
+        return x;
+    }
+
+    private static void promise30EachUndoableMethod() {
+        VaultShelves x = oneCalledOfTwo();
         undoable("setShelf", x, () -> x.setShelf(3, 50, 7));
         undoable("setShelf with the same", x, () -> x.setShelf(0, 30, 10));
         undoable("addRecord", x, () -> x.addRecord(3, 3));
         undoable("removeRecord", x, () -> x.removeRecord(0));
         undoable("call", x, () -> x.call(0));
         undoable("misplace", x, () -> x.misplace(0, 0));
-        undoable("misplace where it is", x, () -> x.misplace(0, 3));
-        undoable("month", x, x::month);
-        undoable("night", x, () -> x.night(3));
-        x.night(20);
-        undoable("night without a step", x, () -> x.night(3));
+        VaultShelves y = oneCalledOfTwo();
+        undoable("misplace where it is", y, () -> y.misplace(0, 3));
+        undoable("month", y, y::month);
+        undoable("night", y, () -> y.night(3));
+        y.night(20);
+        undoable("night without a step", y, () -> y.night(3));
     }
 
     private static void promise30Refusal() {
