@@ -242,6 +242,7 @@ final class ForecastBoundsTest {
         CHECK.equal("and leaves it where it should be", x.shelfFor(30), 5);
         x.setShelf(2, 99, 30);
         CHECK.equal("79 for 30", x.shelfFor(30), 2);
+        CHECK.equal("the number of records is no matter", Vaults.full().shelfFor(1), 0);
     }
 
     private static void promise24LeastReachThenLeastNumber() {

@@ -79,20 +79,27 @@ final class NightBoundsTest {
         CHECK.sentence("Only records that are not misplaced take part in it.");
         VaultShelves x = pair(false, 30, 30);
         CHECK.equal("they would be exchanged", x.bestGain(), 100);
-        VaultShelves y = pair(false, 20, 20);
-        y.setShelf(1, 30, 99);
-        y.misplace(4, 1);
-        y.addRecord(20, 0);
-        CHECK.equal("the third one of 20 is exchanged instead", y.night(1), 1);
-        CHECK.equal("not the misplaced first one", Vaults.shelves(y), "1234105");
-        CHECK.equal("its catalog stays", Vaults.catalogs(y), "1234005");
-        VaultShelves z = pair(true, 20, 20);
-        z.setShelf(1, 30, 99);
-        z.misplace(5, 1);
-        z.addRecord(20, 0);
-        CHECK.equal("nor as the second one", z.night(1), 1);
-        CHECK.equal("but another", Vaults.shelves(z), "1234015");
-        CHECK.equal("whose catalog follows", Vaults.catalogs(z), "1234005");
+        for (boolean calledFirst : new boolean[] {false, true}) {
+            VaultShelves y = pair(calledFirst, 20, 20);
+            int cold = calledFirst ? 5 : 4;
+            y.setShelf(1, 30, 5);
+            y.misplace(cold, 1);
+            y.setShelf(0, 19, 10);
+            CHECK.equal("misplaced on a nearer shelf, it is not", y.night(20), 0);
+            y.setShelf(0, 30, 10);
+            y.addRecord(20, 0);
+            CHECK.equal("another one is, for less", y.night(20), 1);
+            CHECK.equal("that one alone", Vaults.shelves(y), calledFirst ? "1234015" : "1234105");
+            CHECK.equal("the misplaced one should be where it should be", Vaults.catalogs(y), "1234005");
+            VaultShelves z = pair(calledFirst, 20, 20);
+            int called = calledFirst ? 4 : 5;
+            z.setShelf(1, 30, 99);
+            z.misplace(called, 1);
+            z.setShelf(0, 20, 10);
+            CHECK.equal("misplaced on a farther shelf, the called one is not", z.night(20), 0);
+            z.call(called);
+            CHECK.equal("found there, it is", z.night(20), 1);
+        }
     }
 
     private static void misplacedRecordsTakeRoom() {

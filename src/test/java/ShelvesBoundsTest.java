@@ -121,11 +121,18 @@ final class ShelvesBoundsTest {
         CHECK.sentence("when a record is removed, the numbers of the records behind it decrease by 1.");
         for (int removed : new int[] {0, 1, 7, 14, 15}) {
             VaultShelves x = Vaults.full();
+            for (int record = 0; record < 16; record++) {
+                Check.callOften(x, record, record);
+                x.misplace(record, (record + record / 6) % 6);
+            }
             x.removeRecord(removed);
             for (int record = 0; record < 15; record++) {
                 int before = record < removed ? record : record + 1;
-                CHECK.equal("width of " + record + " without " + removed, x.width(record), 1 + before % 5);
-                CHECK.equal("shelf of " + record + " without " + removed, x.shelfOf(record), before % 6);
+                String name = " of " + record + " without " + removed;
+                CHECK.equal("width" + name, x.width(record), 1 + before % 5);
+                CHECK.equal("shelf" + name, x.shelfOf(record), (before + before / 6) % 6);
+                CHECK.equal("catalog" + name, x.catalog(record), before % 6);
+                CHECK.equal("weight" + name, x.weight(record), 2 * before);
             }
             CHECK.refused("the number 15 is free without " + removed, x, NO_SUCH, () -> x.width(15));
             CHECK.equal("and is given again", x.addRecord(9, 5), 15);

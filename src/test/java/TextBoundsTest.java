@@ -26,6 +26,7 @@ final class TextBoundsTest {
         promise28ReturnsTheFirstError();
         promise28ReturnsTheLengthIfThereIsNone();
         promise29ExecutesUpToTheFirstThatWouldThrow();
+        promise29ExecutesTheOrdersInTheBufferAlone();
         promise29EmptiesTheBuffer();
         promise29IsUndoneAsOneCall();
         promise29ReturnsTheOrdersThatAreExecuted();
@@ -379,6 +380,24 @@ final class TextBoundsTest {
         stopsAt("months and nights never throw", x, "month;night20;month;night1;month", 5);
         stopsAt("what is behind it is not executed", x, "add1@0;call7;add1@0;add1@0", 1);
         CHECK.equal("one record", x.records(), 1);
+    }
+
+    private static void promise29ExecutesTheOrdersInTheBufferAlone() {
+        CHECK.sentence("Executes the orders in the buffer");
+        VaultShelves x = new VaultShelves();
+        stopsAt("five orders", x, "add1@0;add1@1;add1@2;add1@3;add1@4", 5);
+        stopsAt("none of the text before", x, "add1@5", 1);
+        CHECK.equal("six records", x.records(), 6);
+        Check.write(x, "call0;call1;call2");
+        x.firstError();
+        stopsAt("none of a text that was looked at", x, "call3", 1);
+        Check.write(x, "call0;call1;call2;call");
+        Check.outcome(x::run);
+        stopsAt("none of a text that was refused", x, "call4;call5", 2);
+        CHECK.equal("three calls", x.month(), 3);
+        stopsAt("nor what stood behind the order that was the end", x, "month;call9;call0;call0", 1);
+        stopsAt("in a shorter text", x, "month", 1);
+        CHECK.equal("no call", x.month(), 0);
     }
 
     private static void promise29EmptiesTheBuffer() {

@@ -7,6 +7,7 @@ final class UndoBoundsTest {
 
     public static void main(String[] args) {
         stateIsAllButTheBufferAndTheSavedStates();
+        stateFromTheFirstToTheLast();
         eachUndoableMethodSaves();
         savesEvenIfNothingChanges();
         noOtherMethodSaves();
@@ -52,6 +53,56 @@ final class UndoBoundsTest {
         CHECK.equal("it stays as it is", x.clearText(), 3);
         CHECK.equal("the calls of this month", x.month(), 1);
         CHECK.equal("and those of the last", x.weight(1), 0);
+    }
+
+    private static void stateFromTheFirstToTheLast() {
+        CHECK.sentence("The state consists of everything");
+        VaultShelves shelves = fullTwoMonths();
+        String seen = Check.brief(shelves);
+        for (int shelf = 0; shelf < 6; shelf++) {
+            shelves.setShelf(shelf, 99 - shelf, 1 + shelf);
+            shelves.undo();
+            shelves.month();
+            shelves.undo();
+            shelves.night(1);
+            shelves.undo();
+            shelves.misplace(shelf, (shelf + 1) % 6);
+            shelves.undo();
+            CHECK.equal("the shelf " + shelf, Check.brief(shelves), seen);
+        }
+        for (int record = 0; record < 16; record++) {
+            VaultShelves x = fullTwoMonths();
+            seen = Check.brief(x);
+            x.call(record);
+            x.undo();
+            x.misplace(record, (record + 2) % 6);
+            x.undo();
+            CHECK.equal("the record " + record, Check.brief(x), seen);
+            x.removeRecord(record);
+            x.undo();
+            CHECK.equal("removed: " + record, Check.brief(x), seen);
+            int weight = 2 * ((record + 2) % 3) + (record + 1) % 5;
+            CHECK.equal("weight of " + record, x.weight(record), weight);
+            x.month();
+            CHECK.equal("its calls of this month: " + record, x.weight(record), (record + 2) % 3);
+            x.undo();
+            CHECK.equal("and of the last: " + record, x.weight(record), weight);
+        }
+    }
+
+    /** 16 records, each with its calls of this month and of the last one, the sixteenth too; five saved states. */
+    private static VaultShelves fullTwoMonths() {
+        VaultShelves x = Vaults.full();
+        for (int record = 0; record < 16; record++) {
+            Check.callOften(x, record, (record + 1) % 5);
+        }
+        x.month();
+        for (int record = 0; record < 16; record++) {
+            Check.callOften(x, record, (record + 2) % 3);
+        }
+        x.call(0);
+        x.undo();
+        return x;
     }
 
     /** What is seen from outside without the last two numbers, which tell of the buffer and of the saved states. */
